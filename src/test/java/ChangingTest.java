@@ -10,6 +10,7 @@ final class ChangingTest {
         pass();
         passBySpars();
         passIntoDryAndByMixes();
+        passToTheEdges();
         passAtOnce();
         passLimits();
         paint();
@@ -18,6 +19,7 @@ final class ChangingTest {
         strokeBySpars();
         strokeWrong();
         stamp();
+        stampFull();
         stampOrder();
         stampWrong();
         spar();
@@ -97,6 +99,18 @@ final class ChangingTest {
         several.paint(1, 2, 5, 7, false);
         several.pass(1);
         dueCell("18: the wettest one of the greatest colour", several, 1, 1, 140);
+    }
+
+    /** Paint bleeds into the first and the last column and row, too. */
+    private static void passToTheEdges() {
+        KitePainter kite = Check.kite("kite 3 12;");
+        kite.paint(1, 0, 1, 9, false);
+        kite.paint(1, 11, 2, 9, false);
+        Check.due("18: three of each", kite.pass(1), 6);
+        dueCell("18: the first column", kite, 0, 0, 130);
+        dueCell("18: the last column", kite, 2, 0, 130);
+        dueCell("18: the lowest row", kite, 0, 11, 230);
+        dueCell("18: its last column", kite, 2, 11, 230);
     }
 
     /** Many ticks at once are the same as one by one, and as what is foretold. */
@@ -259,6 +273,18 @@ final class ChangingTest {
         Check.due("21: at the lowest corner", all.stamp(0, 14, 11, false), 1);
         Check.due("21: 42 and their mirrors", all.stamp(0, 0, 6, true), 84 - 1);
         Check.due("21: over the middle", all.stamp(0, 5, 0, true), 4 * 6 + 1 * 6);
+    }
+
+    private static void stampFull() {
+        KitePainter kite = Check.kite("kite 15 12;pattern 1111111 1111111 1111111 1111111 1111111 1111111;"
+                + "pattern 2222222 2222222 2222222 2222222 2222222 2222222;"
+                + "pattern 3333333 3333333 3333333 3333333 3333333 3333333;");
+        for (int pattern = 0; pattern < 3; pattern++) {
+            Check.due("21: a pattern of all digits", kite.stamp(pattern, 2, 3, false), 42);
+            Check.due("21: no more than these", kite.state(5), 180 - 42);
+            dueCell("21: the last digit", kite, 8, 8, 140 + 100 * pattern);
+        }
+        Check.due("21: its mirror", kite.stamp(2, 2, 3, true), 4 * 6);
     }
 
     /** Digit by digit, line by line from the left, first the cell, then its mirror: the last paint counts. */

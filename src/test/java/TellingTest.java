@@ -139,6 +139,11 @@ final class TellingTest {
         Check.due("9: other colours", kite.unlike(), 2);
         kite.paint(4, 1, 1, 9, false);
         Check.due("9: wetness does not matter", kite.unlike(), 1);
+        KitePainter great = Check.kite("kite 15 12;");
+        great.stroke(3, 11, 3, 9, 1);
+        great.paint(0, 11, 1, 1, false);
+        great.paint(14, 10, 1, 1, false);
+        Check.due("9: in the lowest row, too", great.unlike(), 2);
         Check.due("9: a thin kite", Check.kite("kite 1 3;").unlike(), 0);
     }
 
@@ -236,6 +241,13 @@ final class TellingTest {
         Check.due("12: the wettest one ahead of the greatest colour", kite.bleeds(1, 1), 7);
         kite.spar(1, 2, true, 1);
         Check.due("12: without those with a spar", kite.bleeds(1, 1), 3);
+        KitePainter corner = Check.kite("kite 3 2;");
+        corner.paint(0, 0, 3, 7, false);
+        corner.paint(2, 0, 4, 6, false);
+        corner.paint(1, 1, 5, 7, false);
+        Check.due("12: the greatest colour, not the number 0", corner.bleeds(1, 0), 4);
+        corner.paint(1, 1, 2, 7, false);
+        Check.due("12: the number 0, and no less wet one of a greater colour", corner.bleeds(1, 0), 0);
     }
 
     private static void driesIn() {
@@ -335,6 +347,10 @@ final class TellingTest {
         for (int colour : wrong) {
             Check.dueIllegal("15: evens(" + colour + ")", () -> kite.evens(colour));
         }
+        KitePainter great = Check.kite("kite 15 12;");
+        great.paint(14, 11, 1, 1, false);
+        great.spar(13, 11, true, 1);
+        Check.due("15: at the last cell", great.evens(0), 179);
         KitePainter middle = Check.kite("kite 1 3;");
         middle.paint(0, 1, 1, 1, false);
         Check.due("15: the middle does not matter", middle.evens(0), -1);
@@ -355,6 +371,12 @@ final class TellingTest {
         Check.dueIllegal("16: pattern(0, 3)", () -> kite.pattern(0, 3));
         Check.dueIllegal("16: pattern(0, -1)", () -> kite.pattern(0, -1));
         Check.dueOutside("16: no pattern comes ahead of what", () -> kite.pattern(3, 3));
+        KitePainter full = Check.kite("kite 5 3;pattern 1111111 1111111 1111111 1111111 1111111 1111111;"
+                + "pattern 2222222 2222222 2222222 2222222 2222222 2222222;"
+                + "pattern 3333333 3333333 3333333 3333333 3333333 3333330;");
+        Check.due("16: all digits", full.pattern(0, 2), 42);
+        Check.due("16: all digits", full.pattern(1, 2), 42);
+        Check.due("16: all digits but one", full.pattern(2, 2), 41);
         KitePainter two = nineCells();
         Check.dueOutside("16: two patterns", () -> two.pattern(2, 0));
         Check.due("16: the second one", two.pattern(1, 2), 1);

@@ -104,6 +104,7 @@ final class TextTest {
         KitePainter kite = Check.kite("kite 5 3;reach 1 2 0;cloth 3;wood 7;colour 1 10;mix 1 2 5;spar down 2 0 3;pattern 10 22;");
         kite.paint(2, 0, 1, 9, true);
         kite.pass(3);
+        kite.foretold(2, 0);
         long before = kite.checksum();
         int[] failing = {kite.load(0), Check.load(kite, "kite 7 7;cloth 9;mix 1 2 3;pattern 1;spar down 0 0 9;reach"),
             Check.load(kite, "kite 9 9;colour 1 100;")};
@@ -113,6 +114,8 @@ final class TextTest {
         Check.due("3: changes nothing", kite.checksum(), before);
         Check.due("3: changes no mix", kite.mix(2, 1), 5);
         Check.due("3: changes no pattern", kite.pattern(0, 2), 3);
+        kite.stamp(0, 2, 0, true);
+        kite.foretold(1, 0);
         Check.due("3: load", Check.load(kite, "kite 5 3;"), 15);
         int[] state = {5, 3, 0, 15, 0, 15, 0, 6, 6, 0, 15, 0, 0};
         for (int what = 0; what < state.length; what++) {
@@ -123,7 +126,7 @@ final class TextTest {
         Check.due("3: the weight of a colour", kite.cell(0, 0, 3), 3);
         kite.spar(0, 0, true, 1);
         Check.due("3: the weight of wood", kite.cell(0, 0, 3), 8);
-        Check.due("3: load is a change", kite.undo(), 5);
+        Check.due("3: load is a change", kite.undo(), 6);
     }
 
     private static void statementsThatLoad() {
@@ -192,6 +195,9 @@ final class TextTest {
         dueSyntax("5", 0);
         dueSyntax("  kit 5 5;", 2);
         dueSyntax("kites 5 5;", 0);
+        dueSyntax("kitez 5 5;", 0);
+        dueSyntax("akite 5 5;", 0);
+        dueSyntax("bite 5 5;", 0);
         dueSyntax("Kite 5 5;", 0);
         dueSyntax("kitE 5 5;", 0);
         dueSyntax("kite", 4);
@@ -208,6 +214,15 @@ final class TextTest {
         dueSyntax("kite 5 5;kite 5 5;", 9);
         dueSyntax("kite 5 5;reac 1;", 9);
         dueSyntax("kite 5 5;reachs 1;", 9);
+        dueSyntax("kite 5 1;teach 1;", 9);
+        dueSyntax("kite 5 1;clotz 1;", 9);
+        dueSyntax("kite 5 1;good 1;", 9);
+        dueSyntax("kite 5 1;color 1 1;", 9);
+        dueSyntax("kite 5 1;max 1 2 3;", 9);
+        dueSyntax("kite 5 1;spat down 0 0 1;", 9);
+        dueSyntax("kite 5 1;spar town 0 0 1;", 14);
+        dueSyntax("kite 5 1;spar acrost 0 0 1;", 14);
+        dueSyntax("kite 5 1;pattera 1;", 9);
         dueSyntax("kite 5 5;cloth", 14);
         dueSyntax("kite 5 5;cloth;", 14);
         dueSyntax("kite 5 5;cloth 1", 16);
