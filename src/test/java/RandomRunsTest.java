@@ -54,6 +54,7 @@ final class RandomRunsTest {
     }
 
     private static String same(String what, Call got, Call want) {
+        Check.look();
         String answer = told(got);
         String due = told(want);
         return answer.equals(due) ? null : what + " answered " + answer + ", due is " + due;
