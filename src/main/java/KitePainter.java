@@ -748,7 +748,7 @@ public final class KitePainter {
             found = 0;
             int colour = sail.colours[sail.numberOf(x, y)];
             visit(sail, x, y, colour);
-            for (int next = 0; next < found; next++) {
+            for (int next = 0; next < found && next < CELL_LIMIT; next++) {
                 for (int i = 0; i < NEIGHBOUR_X.length; i++) {
                     visit(sail, foundX[next] + NEIGHBOUR_X[i], foundY[next] + NEIGHBOUR_Y[i], colour);
                 }

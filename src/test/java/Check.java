@@ -7,8 +7,25 @@ final class Check {
 
     private static int looked = 0;
     private static int wrong = 0;
+    private static int sentences = 0;
+    private static int lookedAhead = 0;
+    private static String sentence = "";
 
     private Check() {
+    }
+
+    /** Names the sentence of the document that the answers from here on are due to, and the promises that it binds. */
+    static void sentence(String promises, String text) {
+        endSentence();
+        sentences++;
+        lookedAhead = looked;
+        sentence = "promise " + promises + ", \"" + text + "\": ";
+    }
+
+    private static void endSentence() {
+        if (sentences > 0 && looked == lookedAhead) {
+            tell("no answer was looked at");
+        }
     }
 
     static void due(String what, long got, long want) {
@@ -18,10 +35,22 @@ final class Check {
         }
     }
 
+    /** What is due of a cell is its colour * 100 + its wetness * 10 + 1 if it has a spar. */
+    static void dueCell(String what, KitePainter kite, int x, int y, int want) {
+        due(what + " at (" + x + ", " + y + ")", kite.cell(x, y, 0) * 100 + kite.cell(x, y, 1) * 10 + kite.cell(x, y, 2), want);
+    }
+
     static void dueFloat(String what, float got, float want) {
         looked++;
         if (got != want) {
             tell(what + " answered " + got + ", due is " + want);
+        }
+    }
+
+    static void dueSame(String what, String got, String want) {
+        looked++;
+        if (!got.equals(want)) {
+            tell(what + " told\n    " + got + "\n  due is\n    " + want);
         }
     }
 
@@ -56,12 +85,14 @@ final class Check {
 
     static void tell(String fault) {
         wrong++;
-        System.out.println(fault);
+        System.out.println(sentence + fault);
     }
 
     /** Prints what came out and ends the program with 1 if an answer was wrong. */
     static void end(String test) {
-        System.out.println(test + ": " + looked + " answers looked at, " + wrong + " wrong");
+        endSentence();
+        String ofSentences = sentences > 0 ? sentences + " sentences, " : "";
+        System.out.println(test + ": " + ofSentences + looked + " answers looked at, " + wrong + " wrong");
         if (wrong != 0 || looked == 0) {
             System.exit(1);
         }
@@ -91,6 +122,28 @@ final class Check {
             tell("load of \"" + text + "\" answered " + answer);
         }
         return kite;
+    }
+
+    /** A text without an error, of so many cells. */
+    static void dueLoaded(String text, int cells) {
+        KitePainter kite = new KitePainter();
+        due("load of \"" + text + "\"", load(kite, text), cells);
+        due("errorOffset() of \"" + text + "\"", kite.errorOffset(), -1);
+    }
+
+    static void dueError(String text, int code, int offset) {
+        KitePainter kite = new KitePainter();
+        due("load of \"" + text + "\"", load(kite, text), code);
+        due("errorOffset() of \"" + text + "\"", kite.errorOffset(), offset);
+        due("changes by \"" + text + "\"", kite.undo(), -1);
+    }
+
+    static void dueSyntax(String text, int offset) {
+        dueError(text, KitePainter.SYNTAX_ERROR, offset);
+    }
+
+    static void dueRange(String text, int offset) {
+        dueError(text, KitePainter.OUT_OF_RANGE, offset);
     }
 
     private static int word(String text, int at) {
